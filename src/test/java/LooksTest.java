@@ -348,6 +348,16 @@ public final class LooksTest {
         y.pass(9);
         Check.due("digest with other shares", y.digest(), digestOf(y, "", true, false));
         Check.due("no saved state is made by it", y.count(11), 6);
+        CanyonBall z = new CanyonBall();
+        z.call(0, 0);
+        z.walk(0, 1);
+        z.pass(9);
+        Check.dueShare("a share of 0", z.answeredShare(), 0.0);
+        Check.due("digest with a share of 0", z.digest(), digestOf(z, "", false, false));
+        z.call(1, 0);
+        z.pass(5);
+        Check.dueShare("a share of a third", z.answeredShare(), 1.0 / 3.0);
+        Check.due("digest with a share of a third", z.digest(), digestOf(z, "", false, false));
     }
 
     /** The digest as the document tells it, from the public looks alone. */

@@ -16,6 +16,7 @@ public final class TextsTest {
         promise10RunWrongInputs();
         promise11Keep();
         promise12GoBack();
+        promise12GoBackRestoresAll();
         promise13Undo();
         promise13SixStates();
         promise13UndoKeepsBufferAndSlots();
@@ -174,6 +175,64 @@ public final class TextsTest {
         Check.dueThrow(x, "goBack(1)", STATE, () -> x.goBack(1));
         Check.dueThrow(x, "goBack(2)", ARGUMENT, () -> x.goBack(2));
         Check.dueThrow(x, "goBack(-1)", ARGUMENT, () -> x.goBack(-1));
+    }
+
+    /** A canyon with 24 echoes under way, others that were answered, lost and clashed, and one saved state. */
+    private static CanyonBall full() {
+        CanyonBall x = new CanyonBall();
+        Check.runText(x, "c3=4;t8;c0=1;c2=2;m0+1;t9;m0-1;m0-3");
+        Check.runText(x, "c0=1;c1=2;c2=3;c3=4;t2;c0=5;c1=6;c2=7;c3=8;t1;c0=9;c1=0");
+        Check.due("two more calls", Check.runText(x, "c2=1;c3=2;c0=3"), 2);
+        Check.due("24 echoes are under way", x.count(4), 24);
+        for (int what = 6; what <= 10; what++) {
+            Check.due("full: count(" + what + ") is told", x.count(what) > 0 ? 1 : 0, 1);
+        }
+        return x;
+    }
+
+    private static int[] told(CanyonBall x) {
+        int[] all = new int[11 + 4 * 7 + 25 * 6 + 3];
+        int at = 0;
+        for (int what = 0; what < 11; what++) {
+            all[at++] = x.count(what);
+        }
+        for (int i = 0; i < 4 * 7; i++) {
+            all[at++] = x.playerOf(i / 7, i % 7);
+        }
+        for (int i = 0; i < 25 * 6; i++) {
+            all[at++] = x.echoOf(i / 6, i % 6);
+        }
+        for (int i = 0; i < 3; i++) {
+            all[at++] = x.setting(i);
+        }
+        return all;
+    }
+
+    private static void dueTold(String what, CanyonBall x, int[] want) {
+        int[] got = told(x);
+        for (int i = 0; i < want.length; i++) {
+            Check.due(what + ", number " + i, got[i], want[i]);
+        }
+    }
+
+    private static void promise12GoBackRestoresAll() {
+        CanyonBall x = full();
+        int[] atFirst = told(x);
+        x.keep(1);
+        Check.due("run on", Check.runText(x, "t3;m1+2;m3-1;c1=9;t40;c0=3;c1=1;t2"), 3);
+        Check.due("and on", Check.runText(x, "t40;c0=3;c1=1;t2"), 4);
+        x.undo();
+        x.set(1, 2);
+        int[] later = told(x);
+        int saved = x.count(11);
+        x.goBack(1);
+        dueTold("goBack(1)", x, atFirst);
+        Check.due("undo of goBack", x.undo(), saved);
+        dueTold("undo of goBack", x, later);
+        CanyonBall y = full();
+        y.pass(30);
+        y.undo();
+        dueTold("undo of pass", y, atFirst);
     }
 
     private static void promise13Undo() {
