@@ -361,7 +361,7 @@ public final class LooksTest {
     }
 
     /** The digest as the document tells it, from the public looks alone. */
-    private static long digestOf(CanyonBall x, String buffer, boolean kept0, boolean kept1) {
+    static long digestOf(CanyonBall x, String buffer, boolean kept0, boolean kept1) {
         long hash = 3467;
         for (int what = 0; what < 12; what++) {
             hash = 31 * hash + x.count(what);

@@ -190,49 +190,24 @@ public final class TextsTest {
         return x;
     }
 
-    private static int[] told(CanyonBall x) {
-        int[] all = new int[11 + 4 * 7 + 25 * 6 + 3];
-        int at = 0;
-        for (int what = 0; what < 11; what++) {
-            all[at++] = x.count(what);
-        }
-        for (int i = 0; i < 4 * 7; i++) {
-            all[at++] = x.playerOf(i / 7, i % 7);
-        }
-        for (int i = 0; i < 25 * 6; i++) {
-            all[at++] = x.echoOf(i / 6, i % 6);
-        }
-        for (int i = 0; i < 3; i++) {
-            all[at++] = x.setting(i);
-        }
-        return all;
-    }
-
-    private static void dueTold(String what, CanyonBall x, int[] want) {
-        int[] got = told(x);
-        for (int i = 0; i < want.length; i++) {
-            Check.due(what + ", number " + i, got[i], want[i]);
-        }
-    }
-
     private static void promise12GoBackRestoresAll() {
         CanyonBall x = full();
-        int[] atFirst = told(x);
+        int[] atFirst = Check.told(x);
         x.keep(1);
         Check.due("run on", Check.runText(x, "t3;m1+2;m3-1;c1=9;t40;c0=3;c1=1;t2"), 3);
         Check.due("and on", Check.runText(x, "t40;c0=3;c1=1;t2"), 4);
         x.undo();
         x.set(1, 2);
-        int[] later = told(x);
+        int[] later = Check.told(x);
         int saved = x.count(11);
         x.goBack(1);
-        dueTold("goBack(1)", x, atFirst);
+        Check.dueTold("goBack(1)", x, atFirst);
         Check.due("undo of goBack", x.undo(), saved);
-        dueTold("undo of goBack", x, later);
+        Check.dueTold("undo of goBack", x, later);
         CanyonBall y = full();
         y.pass(30);
         y.undo();
-        dueTold("undo of pass", y, atFirst);
+        Check.dueTold("undo of pass", y, atFirst);
     }
 
     private static void promise13Undo() {
