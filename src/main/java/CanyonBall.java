@@ -25,7 +25,15 @@ public final class CanyonBall {
     private static final int[] MOST_VALUES = {40, 9, 5};
     private static final int[] FIRST_VALUES = {12, 3, 2};
 
+    private static final int PLACE = 0;
+    private static final int CAUGHT = 1;
+    private static final int CALLS = 2;
+    private static final int UNDER_WAY = 3;
+    private static final int ANSWERED = 4;
+    private static final int CLASHED = 5;
+    private static final int LOST = 6;
     private static final int PLAYER_PROPERTIES = 7;
+
     private static final int ECHO_PROPERTIES = 6;
     private static final int BALL_PROPERTIES = 3;
     private static final int COUNTS = 12;
@@ -682,24 +690,24 @@ public final class CanyonBall {
         }
 
         double shareAnswered() {
-            int answered = sumOfPlayers(4);
-            int back = answered + sumOfPlayers(5) + sumOfPlayers(6);
+            int answered = sumOfPlayers(ANSWERED);
+            int back = answered + sumOfPlayers(CLASHED) + sumOfPlayers(LOST);
             return back > 0 ? (double) answered / (double) back : 1.0;
         }
 
         int playerNumber(int player, int what) {
             switch (what) {
-                case 0:
+                case PLACE:
                     return players[player].place;
-                case 1:
+                case CAUGHT:
                     return players[player].caught;
-                case 2:
+                case CALLS:
                     return players[player].calls;
-                case 3:
+                case UNDER_WAY:
                     return echoesOf(player);
-                case 4:
+                case ANSWERED:
                     return players[player].answered;
-                case 5:
+                case CLASHED:
                     return players[player].clashed;
                 default:
                     return players[player].lost;
@@ -748,15 +756,15 @@ public final class CanyonBall {
                 case 4:
                     return echoCount;
                 case 5:
-                    return WALLS * sumOfPlayers(2);
+                    return WALLS * sumOfPlayers(CALLS);
                 case 6:
-                    return sumOfPlayers(4);
+                    return sumOfPlayers(ANSWERED);
                 case 7:
-                    return sumOfPlayers(5);
+                    return sumOfPlayers(CLASHED);
                 case 8:
-                    return sumOfPlayers(6);
+                    return sumOfPlayers(LOST);
                 case 9:
-                    return sumOfPlayers(1);
+                    return sumOfPlayers(CAUGHT);
                 default:
                     return refused;
             }
